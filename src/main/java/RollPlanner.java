@@ -367,7 +367,7 @@ public final class RollPlanner {
      * are determinants too, of patterns of at most 60 pieces, so a product of two fits a long.
      */
     private static final class Floor {
-        /** Exchanges that would be too many by far: the method ends by itself, see leaves(). */
+        /** Exchanges that would be too many by far: the method ends by itself, see rowToLeave(). */
         private static final int MOST_EXCHANGES = 1000000;
 
         /** The longest gcd of two longs takes fewer divisions. */
@@ -394,7 +394,7 @@ public final class RollPlanner {
         void find() {
             start();
             for (int n = 0; n < MOST_EXCHANGES && findCheaper(); n++) {
-                int leaving = leaves();
+                int leaving = rowToLeave();
                 if (leaving == NONE) {
                     break;
                 }
@@ -446,7 +446,7 @@ public final class RollPlanner {
          * The row that is used up first. Rows that are used up at once are told apart by the rest of
          * them: then no basis comes twice, which would else be possible.
          */
-        private int leaves() {
+        private int rowToLeave() {
             int first = NONE;
             for (int i = 0; i < job.kinds; i++) {
                 if (share[i] > 0 && (first == NONE || usedUpBefore(i, first))) {
