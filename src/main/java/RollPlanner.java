@@ -150,7 +150,7 @@ public final class RollPlanner {
         return code;
     }
 
-    /** What is to be cut. Kinds that there are not have width 0 and demand 0. */
+    /** What is to be cut. Of kinds that there are not nothing is asked for. */
     private static final class Job {
         int rollWidth = 1;
         int kinds = 0;
@@ -168,7 +168,6 @@ public final class RollPlanner {
         void clear(int newRollWidth) {
             rollWidth = newRollWidth;
             kinds = 0;
-            Arrays.fill(width, 0);
             Arrays.fill(demand, 0);
         }
 
@@ -181,7 +180,6 @@ public final class RollPlanner {
 
         void removeLast() {
             kinds--;
-            width[kinds] = 0;
             demand[kinds] = 0;
         }
     }

@@ -96,18 +96,27 @@ public final class ModelTest {
             int demand = random.nextInt(7);
             same("kind(" + piece + ", " + demand + ")", program.kind(piece, demand), model.kind(piece, demand));
         }
+        planAndFloor();
+        for (int n = 0; n < 20; n++) {
+            withLike(random.nextInt(3), random.nextInt(3), random.nextInt(3), random.nextInt(3));
+        }
+        priceLike(random.nextInt(100), random.nextInt(100), random.nextInt(100), random.nextInt(100));
+        int demand = random.nextInt(7);
+        same("ask(0, " + demand + ")", program.ask(0, demand) ? 1 : 0, model.ask(0, demand) ? 1 : 0);
+        planAndFloor();
+        same("drop()", program.drop(), model.drop());
+        planAndFloor();
+    }
+
+    private void planAndFloor() {
         same("rolls()", program.rolls(), model.rolls());
-        for (int i = -1; i <= model.rolls(); i++) {
-            for (int k = -1; k <= 4; k++) {
+        for (int i = 0; i <= model.rolls(); i++) {
+            for (int k = 0; k <= model.of(1); k++) {
                 same("cut(" + i + ", " + k + ")", program.cut(i, k), model.cut(i, k));
             }
         }
         same("floorTop()", program.floorTop(), model.floorTop());
         same("floorBottom()", program.floorBottom(), model.floorBottom());
-        for (int n = 0; n < 20; n++) {
-            withLike(random.nextInt(3), random.nextInt(3), random.nextInt(3), random.nextInt(3));
-        }
-        priceLike(random.nextInt(100), random.nextInt(100), random.nextInt(100), random.nextInt(100));
     }
 
     private void withLike(int a0, int a1, int a2, int a3) {

@@ -196,6 +196,7 @@ public final class PromisesTest {
         checks.same("an empty one", x.with(0, 0, 0, 0), 6);
         checks.same("as wide as the roll", x.with(0, 2, 0, 0), 5);
         checks.same("wider than the roll", x.with(1, 1, 0, 0), -1);
+        checks.same("wider than the roll by its third kind", x.with(0, 1, 2, 0), -1);
         checks.same("wider than the roll by its number", x.with(2, 0, 0, 0), -1);
         checks.same("of a kind that there is not", x.with(0, 0, 0, 1), -1);
         checks.same("below 0", x.with(0, -1, 0, 0), -1);
@@ -206,6 +207,8 @@ public final class PromisesTest {
         checks.same("of a kind that nothing is asked of", few.with(0, 1, 0, 0), -1);
         checks.same("all but one piece", few.with(2, 0, 1, 5), 2);
         checks.same("worse than the best plan", Jobs.of(11, 4, 5, 5, 5, 6, 5, 7, 5).with(1, 1, 0, 0), 11);
+        checks.same("wider than the roll by its fourth kind", Jobs.of(9, 1, 6, 1, 6, 1, 6, 4, 6).with(0, 1, 1, 2), -1);
+        checks.same("as wide as the roll, of all kinds", Jobs.of(9, 1, 1, 2, 1, 2, 1, 4, 1).with(1, 1, 1, 1), 1);
         for (int wrong : FAR) {
             checks.same("a0 far off", few.with(wrong, 0, 0, 0), -1);
             checks.same("a1 far off", few.with(0, wrong, 0, 0), -1);
@@ -306,6 +309,10 @@ public final class PromisesTest {
         x.drop();
         x.kind(4, 5);
         checks.same("after another kind in its place", everything(x), everything(Jobs.of(10, 7, 2, 5, 3, 4, 5)));
+        Jobs.setUp(x, 10, 4, 2, 6, 2);
+        checks.same("two kinds on each roll", Jobs.plan(x), "1,1 1,1");
+        x.drop();
+        checks.same("the second kind has gone", Jobs.plan(x), "2");
         Jobs.setUp(x, 9, 4, 3, 5, 3);
         checks.same("after begin", everything(x), everything(Jobs.of(9, 4, 3, 5, 3)));
     }
