@@ -2,12 +2,18 @@
 final class Checks {
     private int made = 0;
     private int wrong = 0;
+    private String about = "";
+
+    /** What the checks to come are about: it stands ahead of each wrong answer that is printed. */
+    void about(String words) {
+        about = words + ": ";
+    }
 
     void same(String what, long got, long due) {
         made++;
         if (got != due) {
             wrong++;
-            System.out.println(what + " answered " + got + ", due is " + due);
+            System.out.println(about + what + " answered " + got + ", due is " + due);
         }
     }
 
@@ -15,7 +21,7 @@ final class Checks {
         made++;
         if (!got.equals(due)) {
             wrong++;
-            System.out.println(what + " answered " + got + ", due is " + due);
+            System.out.println(about + what + " answered " + got + ", due is " + due);
         }
     }
 
