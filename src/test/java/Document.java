@@ -2,6 +2,7 @@ import java.io.IOException;
 import java.nio.file.Files;
 import java.nio.file.Path;
 import java.util.LinkedHashMap;
+import java.util.List;
 import java.util.Map;
 
 /**
@@ -11,10 +12,13 @@ import java.util.Map;
 final class Document {
     private static final Path FILE = Path.of("../shared/DOC.md");
 
+    /** The section that FaceTest holds the class to; all the others are to be quoted. */
+    private static final String FACE = "The public face";
+
     private final Checks checks;
     private final Map<String, StringBuilder> sections = new LinkedHashMap<>();
 
-    /** Of each section of which all is to be quoted, what no test has quoted yet. */
+    /** Of each section that is to be quoted, what no test has quoted yet. */
     private final Map<String, String> open = new LinkedHashMap<>();
 
     Document(Checks checks) throws IOException {
@@ -22,7 +26,7 @@ final class Document {
         read();
         for (Map.Entry<String, StringBuilder> section : sections.entrySet()) {
             String name = section.getKey();
-            if (name.equals("Terms") || name.startsWith("Promise ")) {
+            if (!name.equals(FACE)) {
                 open.put(name, section.getValue().toString().replaceAll("`[^`]*`:", ""));
             }
         }
@@ -51,6 +55,12 @@ final class Document {
     /** "Promise 2: begin" is called "Promise 2" here. */
     private static String nameOf(String heading) {
         return heading.startsWith("Promise ") ? heading.substring(0, heading.indexOf(':')) : heading;
+    }
+
+    /** The lines of the face, without its first and its last; none where the document is missing. */
+    List<String> face() {
+        StringBuilder text = sections.getOrDefault(FACE, new StringBuilder());
+        return text.toString().lines().filter(line -> line.startsWith("    ")).map(String::trim).toList();
     }
 
     /** The checks to come hold the program to these words of a section. */

@@ -35,6 +35,7 @@ public final class FaceTest {
 
     public static void main(String[] args) throws IOException {
         FaceTest test = new FaceTest();
+        test.faceOfTheDocument(new Document(test.checks).face());
         test.face();
         test.classesInside();
         for (Class<?> type : RollPlanner.class.getDeclaredClasses()) {
@@ -43,6 +44,20 @@ public final class FaceTest {
         test.membersOf(RollPlanner.class);
         test.source();
         test.checks.end("FaceTest");
+    }
+
+    /** The list above is the document's, and the document has nothing else. */
+    private void faceOfTheDocument(List<String> lines) {
+        if (lines.isEmpty()) {
+            return;
+        }
+        Set<String> due = new TreeSet<>(List.of("static final int NONE = -1", "RollPlanner()"));
+        due.addAll(FACE);
+        Set<String> found = new TreeSet<>();
+        for (String line : lines) {
+            found.add(line.replace("public ", "").replaceAll("int \\w+([,)])", "int$1").replace(";", ""));
+        }
+        checks.same("the face of the document", found.toString(), due.toString());
     }
 
     private void face() {
@@ -60,9 +75,10 @@ public final class FaceTest {
         checks.holds("it is public", Modifier.isPublic(constructors[0].getModifiers()));
         checks.same("its parameters", constructors[0].getParameterCount(), 0);
         for (Field field : RollPlanner.class.getDeclaredFields()) {
-            boolean isNone = field.getName().equals("NONE") && field.getType() == int.class;
+            boolean isNone = field.toString().equals("public static final int RollPlanner.NONE");
             checks.holds(field + " is NONE or private", isNone || Modifier.isPrivate(field.getModifiers()));
         }
+        checks.same("NONE", RollPlanner.NONE, -1);
     }
 
     private static String signature(Method method) {

@@ -84,7 +84,13 @@ final class LastCallEdges {
             }
         }
         document.quote("What it is", "what later calls answer is free.");
-        laterCallsEnd();
+        for (Filler filler : CHANGES) {
+            laterCallsEnd(filler);
+        }
+        document.quote("Not promised", "and nothing about an object after its 512th call.");
+        for (Filler filler : QUESTIONS_ALONE) {
+            laterCallsEnd(filler);
+        }
     }
 
     private void alikeToTheLast(Question question) {
@@ -117,17 +123,15 @@ final class LastCallEdges {
         checks.same("the 512th call, " + question.name + " behind " + filler.name, question.call.applyAsLong(x), question.due);
     }
 
-    /** No answer is due any more, but none may throw. */
-    private void laterCallsEnd() {
+    /** No answer is due any more, but no call may throw. */
+    private void laterCallsEnd(Filler filler) {
         RollPlanner x = new RollPlanner();
-        for (int n = 0; n < 4 * CALLS; n++) {
-            anyChange(x, n);
-        }
         setUp(x);
-        for (Question question : QUESTIONS) {
-            question.call.applyAsLong(x);
+        for (int n = 0; n < 4 * CALLS; n++) {
+            filler.call.accept(x, n);
+            QUESTIONS.get(n % QUESTIONS.size()).call.applyAsLong(x);
         }
-        checks.holds("the calls after the 512th have ended", true);
+        checks.holds("the calls after the 512th have ended, " + filler.name, true);
     }
 
     private static void refusedChange(RollPlanner x, int n) {
